@@ -1,0 +1,19 @@
+/** Runs all tests of the project; the last line it prints is 'N passed, N failed'. */
+public final class AllTests {
+    private AllTests() {
+    }
+
+    public static void main(String[] args) {
+        Tests tests = new Tests();
+        FaceTests.addTo(tests);
+        CopyTests.addTo(tests);
+        GenerationTests.addTo(tests);
+        TellingTests.addTo(tests);
+        RotaTests.addTo(tests);
+        ModelTests.addTo(tests);
+        System.out.println(tests.summary());
+        if (tests.failed() != 0) {
+            System.exit(1);
+        }
+    }
+}
