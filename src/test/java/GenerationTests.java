@@ -244,6 +244,16 @@ final class GenerationTests {
             Tests.due("thin", vault.thin(), 11);
             Tests.due("copies", vault.copies(), 1);
         });
+        tests.test("9 the last of 60 copies holds its base", () -> {
+            DrillVault vault = new DrillVault();
+            CopyTests.fullTimes(vault, 59);
+            vault.pass(1);
+            vault.drill(vault.increment());
+            vault.setRules(0, 0, 0);
+            Tests.due("thin", vault.thin(), 58 * 11);
+            Tests.due("58 is there", vault.dayOf(58), 0);
+            Tests.due("chain of 59", vault.drill(59), 2);
+        });
         tests.test("9 damaged copies are taken off like others", () -> {
             DrillVault vault = fullsOn(0, 1);
             vault.setRules(1, 0, 0);

@@ -122,6 +122,11 @@ final class TellingTests {
             Tests.due("a later day", GenerationTests.promised(vault, 3), "--+");
         });
         tests.test("17 isNeeded", () -> {
+            DrillVault first = new DrillVault();
+            first.full();
+            Tests.due("asked as the first thing", first.isNeeded(0), true);
+            first.increment();
+            Tests.due("of an increment", first.isNeeded(1), true);
             DrillVault vault = Tests.vault(CopyTests.SOME);
             vault.setRules(1, 0, 0);
             Tests.due("the last chain", GenerationTests.needed(vault, 5), "---++");
