@@ -10,6 +10,12 @@ public final class AllTests {
         GenerationTests.addTo(tests);
         TellingTests.addTo(tests);
         RotaTests.addTo(tests);
+        StoreEdgeTests.addTo(tests);
+        GenerationEdgeTests.addTo(tests);
+        TellingEdgeTests.addTo(tests);
+        RotaEdgeTests.addTo(tests);
+        RefusalTests.addTo(tests);
+        LongUseTests.addTo(tests);
         ModelTests.addTo(tests);
         System.out.println(tests.summary());
         if (tests.failed() != 0) {

@@ -4,7 +4,7 @@ import java.util.function.Supplier;
 
 /**
  * Looks at all that a vault answers, cut into parts: one object answers 512 calls at most,
- * and a look takes at most 140 of them.
+ * and a look takes at most 131 of them, or as many as an object that has not had them may still take.
  */
 final class Looks {
     interface Look {
@@ -43,7 +43,17 @@ final class Looks {
         looks.add(Looks::damages);
         looks.add(vault -> "thinned " + vault.thin() + copies(vault, 0, COPIES_A_LOOK));
         looks.add(Looks::rulesKept);
+        looks.add(vault -> "changes " + timesUntilRefused(() -> vault.change(0, 0), 300));
+        looks.add(vault -> "full copies " + timesUntilRefused(vault::full, 60));
         return looks;
+    }
+
+    private static int timesUntilRefused(Supplier<Object> call, int most) {
+        int times = 0;
+        while (times <= most && !outcome(call).startsWith("throws")) {
+            times++;
+        }
+        return times;
     }
 
     private static String copies(DrillVault vault, int from, int to) {
