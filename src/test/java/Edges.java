@@ -9,7 +9,26 @@ final class Edges {
     static final Tests.Deed EMPTY = vault -> {
     };
 
-    static final Tests.Deed SOME = CopyTests.SOME;
+    /** Two chains, some of it proved, damaged and changed since. */
+    static final Tests.Deed SOME = vault -> {
+        vault.change(0, 10);
+        vault.full();
+        vault.change(1, 11);
+        vault.increment();
+        vault.pass(3);
+        vault.change(1, 12);
+        vault.change(2, 0);
+        vault.increment();
+        vault.drill(1);
+        vault.pass(5);
+        vault.full();
+        vault.change(9, 99);
+        vault.increment();
+        vault.damage(3);
+        vault.change(4, 44);
+        vault.swap(20, 25);
+        vault.swap(30, 32);
+    };
 
     /** 300 changes, 60 copies in twelve chains of five, the day 360: made by 376 calls. */
     static final Tests.Deed FULL = vault -> {
@@ -44,7 +63,7 @@ final class Edges {
 
     /** Of 60 copies the last one is there, the full copy 59 of the day 30. */
     static final Tests.Deed THINNED_OF_60 = vault -> {
-        CopyTests.fullTimes(vault, 59);
+        fullTimes(vault, 59);
         vault.pass(30);
         vault.drill(vault.full());
         vault.setRules(0, 0, 0);
@@ -104,7 +123,25 @@ final class Edges {
 
     static DrillVault onDay(int day) {
         DrillVault vault = new DrillVault();
-        CopyTests.passTo(vault, day);
+        passTo(vault, day);
         return vault;
+    }
+
+    static void changeTimes(DrillVault vault, int times) {
+        for (int i = 0; i < times; i++) {
+            vault.change(i % 10, i % 100);
+        }
+    }
+
+    static void fullTimes(DrillVault vault, int times) {
+        for (int i = 0; i < times; i++) {
+            vault.full();
+        }
+    }
+
+    static void passTo(DrillVault vault, int day) {
+        while (vault.day() < day) {
+            vault.pass(Math.min(30, day - vault.day()));
+        }
     }
 }

@@ -19,20 +19,24 @@ final class GenerationEdgeTests {
             for (int days = 0; days <= 30; days++) {
                 Tests.due("days " + days, GenerationTests.fullsOn(0, 1, 2).setRules(days, 0, 0), Math.min(days, 3));
             }
-            Edges.refusedOutside("setRules by days", Edges.ARGUMENT, 0, 30, (vault, days) -> vault.setRules(days, 1, 1));
+            Edges.refusedOutside("setRules by days", Edges.ARGUMENT, 0, 30,
+                    (vault, days) -> vault.setRules(days, 1, 1));
         });
         tests.test("8 \"weeks: 0 to 20\"", () -> {
             for (int weeks = 0; weeks <= 20; weeks++) {
-                Tests.due("weeks " + weeks, GenerationTests.fullsOn(0, 7, 14).setRules(0, weeks, 0), Math.min(weeks, 3));
+                Tests.due("weeks " + weeks, GenerationTests.fullsOn(0, 7, 14).setRules(0, weeks, 0),
+                        Math.min(weeks, 3));
             }
-            Edges.refusedOutside("setRules by weeks", Edges.ARGUMENT, 0, 20, (vault, weeks) -> vault.setRules(1, weeks, 1));
+            Edges.refusedOutside("setRules by weeks", Edges.ARGUMENT, 0, 20,
+                    (vault, weeks) -> vault.setRules(1, weeks, 1));
         });
         tests.test("8 \"months: 0 to 12\"", () -> {
             for (int months = 0; months <= 12; months++) {
                 Tests.due("months " + months, GenerationTests.fullsOn(0, 28, 56).setRules(0, 0, months),
                         Math.min(months, 3));
             }
-            Edges.refusedOutside("setRules by months", Edges.ARGUMENT, 0, 12, (vault, months) -> vault.setRules(1, 1, months));
+            Edges.refusedOutside("setRules by months", Edges.ARGUMENT, 0, 12,
+                    (vault, months) -> vault.setRules(1, 1, months));
         });
         tests.test("8 two or three rules out of range at once", () -> {
             int[][] wrong = {{-1, -1, 1}, {31, 1, 13}, {1, 21, -1}, {31, 21, 13}, {-1, -1, -1},
@@ -359,7 +363,7 @@ final class GenerationEdgeTests {
         });
         tests.test("9 a full store: 59 of 60 are taken off, and numbers are not given again", () -> {
             DrillVault vault = new DrillVault();
-            CopyTests.fullTimes(vault, 59);
+            Edges.fullTimes(vault, 59);
             vault.pass(1);
             vault.drill(vault.full());
             Tests.due("the last one of the day 0 is promised", vault.thin(), 58 * 11);

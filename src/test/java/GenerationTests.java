@@ -1,7 +1,5 @@
 /** Promises 8 and 9: the rules of the generations, and what is taken off. */
 final class GenerationTests {
-    private static final Class<IllegalArgumentException> ARGUMENT = IllegalArgumentException.class;
-
     private GenerationTests() {
     }
 
@@ -15,7 +13,7 @@ final class GenerationTests {
     static DrillVault fullsOn(int... days) {
         DrillVault vault = new DrillVault();
         for (int day : days) {
-            CopyTests.passTo(vault, day);
+            Edges.passTo(vault, day);
             vault.full();
         }
         return vault;
@@ -59,38 +57,6 @@ final class GenerationTests {
             Tests.due("0 0 12", vault.setRules(0, 0, 12), 2);
             Tests.due("30 20 12", vault.setRules(30, 20, 12), 5);
             Tests.due("no copies", new DrillVault().setRules(30, 20, 12), 0);
-        });
-        tests.test("8 setRules refuses each rule out of range", () -> {
-            int[][] wrong = {{-1, 1, 1}, {31, 1, 1}, {1, -1, 1}, {1, 21, 1}, {1, 1, -1}, {1, 1, 13},
-                {Integer.MIN_VALUE, 0, 0}, {0, Integer.MAX_VALUE, 0}, {0, 0, Integer.MIN_VALUE}, {31, 21, 13}};
-            for (int[] rule : wrong) {
-                Tests.refused("setRules " + rule[0] + " " + rule[1] + " " + rule[2], ARGUMENT, CopyTests.SOME,
-                        vault -> vault.setRules(rule[0], rule[1], rule[2]));
-            }
-        });
-        tests.test("8 the highest rules reach as far as they tell", () -> {
-            DrillVault days = new DrillVault();
-            for (int day = 0; day < 32; day++) {
-                days.full();
-                days.pass(1);
-            }
-            Tests.due("30 days", days.setRules(30, 0, 0), 30);
-            Tests.due("copy 1", days.isPromised(1), false);
-            Tests.due("copy 2", days.isPromised(2), true);
-            DrillVault weeks = new DrillVault();
-            for (int week = 0; week < 22; week++) {
-                weeks.full();
-                weeks.pass(7);
-            }
-            Tests.due("20 weeks", weeks.setRules(0, 20, 0), 20);
-            Tests.due("copy 1", weeks.isPromised(1), false);
-            DrillVault months = new DrillVault();
-            for (int month = 0; month < 13; month++) {
-                months.full();
-                CopyTests.passTo(months, Math.min(360, months.day() + 28));
-            }
-            Tests.due("12 months", months.setRules(0, 0, 12), 12);
-            Tests.due("copy 0", months.isPromised(0), false);
         });
     }
 
@@ -232,35 +198,15 @@ final class GenerationTests {
             Tests.due("2 is loose, 3 and 4 are needed", vault.thin(), 11);
             Tests.due("there", there(vault, 6), "---+++");
         });
-        tests.test("9 a full store is thinned", () -> {
-            DrillVault vault = new DrillVault();
-            CopyTests.fullTimes(vault, 59);
-            vault.pass(1);
-            vault.drill(vault.full());
-            Tests.due("59 of a day, its last one promised", vault.thin(), 58 * 11);
-            Tests.due("58 is there", vault.dayOf(58), 0);
-            Tests.due("59 is there", vault.dayOf(59), 1);
-            vault.setRules(1, 1, 1);
-            Tests.due("thin", vault.thin(), 11);
-            Tests.due("copies", vault.copies(), 1);
-        });
         tests.test("9 the last of 60 copies holds its base", () -> {
             DrillVault vault = new DrillVault();
-            CopyTests.fullTimes(vault, 59);
+            Edges.fullTimes(vault, 59);
             vault.pass(1);
             vault.drill(vault.increment());
             vault.setRules(0, 0, 0);
             Tests.due("thin", vault.thin(), 58 * 11);
             Tests.due("58 is there", vault.dayOf(58), 0);
             Tests.due("chain of 59", vault.drill(59), 2);
-        });
-        tests.test("9 damaged copies are taken off like others", () -> {
-            DrillVault vault = fullsOn(0, 1);
-            vault.setRules(1, 0, 0);
-            vault.damage(0);
-            vault.drill(1);
-            Tests.due("thin", vault.thin(), 11);
-            Tests.due("there", there(vault, 2), "-+");
         });
     }
 }

@@ -5,7 +5,7 @@ import java.util.function.Function;
 final class LongUseTests {
     private static final int CALLS = 512;
 
-    /** CopyTests.SOME makes so many calls. */
+    /** Edges.SOME makes so many calls. */
     private static final int CALLS_OF_SOME = 17;
 
     private static final class LastCall {

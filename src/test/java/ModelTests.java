@@ -3,6 +3,9 @@ import java.util.function.Supplier;
 /** Long mixed runs on DrillVault and on PlainVault side by side: every answer must be the same. */
 final class ModelTests {
     private static final int CALLS = 512;
+    private static final int DEEDS = 16;
+    private static final int[] FAR_AWAY =
+            {Integer.MIN_VALUE, Integer.MIN_VALUE + 1, Integer.MAX_VALUE - 1, Integer.MAX_VALUE};
 
     /** Numbers that look mixed and are the same each time. */
     private static final class Mix {
@@ -27,6 +30,7 @@ final class ModelTests {
     private final PlainVault plain = new PlainVault();
     private final int longestPass;
     private final int queries;
+    private final int favourite;
     private final int seed;
     private final StringBuilder story = new StringBuilder();
     private int seen;
@@ -35,7 +39,8 @@ final class ModelTests {
         this.seed = seed;
         mix = new Mix(seed);
         longestPass = 1 + mix.below(mix.oneIn(3) ? 32 : 6);
-        queries = 1 + mix.below(4);
+        queries = mix.below(4);
+        favourite = mix.below(DEEDS);
     }
 
     static void addTo(Tests tests) {
@@ -68,31 +73,44 @@ final class ModelTests {
         }
     }
 
+    private int farAway() {
+        return FAR_AWAY[mix.below(FAR_AWAY.length)];
+    }
+
     private int copy() {
+        if (mix.oneIn(100)) {
+            return farAway();
+        }
         return mix.oneIn(30) ? mix.below(64) - 2 : Math.max(0, seen - 1 - mix.below(1 + mix.below(seen + 1)));
     }
 
     private int file() {
+        if (mix.oneIn(100)) {
+            return farAway();
+        }
         return mix.oneIn(40) ? mix.below(14) - 2 : mix.below(10);
     }
 
     private int rotaDay() {
         if (mix.oneIn(6)) {
-            return mix.below(370) - 2;
+            return mix.oneIn(6) ? farAway() : mix.below(370) - 2;
         }
         return plain.day() + mix.below(12) - (mix.oneIn(10) ? 2 : 0);
     }
 
     private void deed() {
-        switch (mix.below(16)) {
+        // Every other run has one kind of deed more often, so that the changes, copies or days come to their end.
+        boolean often = seed % 2 == 1 && mix.oneIn(2);
+        switch (often ? favourite : mix.below(DEEDS)) {
             case 0: case 1: case 2: case 3: {
                 int file = file();
                 int content = mix.oneIn(30) ? mix.below(106) - 3 : mix.below(100);
-                same("change " + file + " " + content, () -> vault.change(file, content), () -> plain.change(file, content));
+                same("change " + file + " " + content,
+                        () -> vault.change(file, content), () -> plain.change(file, content));
                 break;
             }
             case 4: case 5: {
-                int days = mix.oneIn(30) ? mix.below(40) - 4 : 1 + mix.below(longestPass);
+                int days = mix.oneIn(90) ? farAway() : mix.oneIn(30) ? mix.below(40) - 4 : 1 + mix.below(longestPass);
                 same("pass " + days, () -> vault.pass(days), () -> plain.pass(days));
                 break;
             }

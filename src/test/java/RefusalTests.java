@@ -2,8 +2,8 @@ import java.util.List;
 
 /** Of the section Exceptions: which line decides, and that a call that throws changes nothing. */
 final class RefusalTests {
-    private static final Tests.Deed ALL_CHANGES = vault -> CopyTests.changeTimes(vault, 300);
-    private static final Tests.Deed LAST_DAY = vault -> CopyTests.passTo(vault, 360);
+    private static final Tests.Deed ALL_CHANGES = vault -> Edges.changeTimes(vault, 300);
+    private static final Tests.Deed LAST_DAY = vault -> Edges.passTo(vault, 360);
 
     /** One call for each line of each throws clause, where there is something to change. */
     private static final List<Tests.Deed> REFUSED_OF_SOME = List.of(
@@ -60,7 +60,7 @@ final class RefusalTests {
         });
         tests.test("3 the first line decides: days out of range, the day above 360", () -> {
             Edges.refused("pass on 360", Edges.ARGUMENT, LAST_DAY, DrillVault::pass, Edges.outside(1, 30));
-            Edges.refused("pass on 331", Edges.ARGUMENT, vault -> CopyTests.passTo(vault, 331), DrillVault::pass, 31, 360);
+            Edges.refused("pass on 331", Edges.ARGUMENT, vault -> Edges.passTo(vault, 331), DrillVault::pass, 31, 360);
         });
         tests.test("22 the first line decides: days out of range or the same, no rest", () -> {
             Tests.Deed now10 = vault -> vault.pass(10);

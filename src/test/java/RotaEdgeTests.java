@@ -25,7 +25,7 @@ final class RotaEdgeTests {
 
     private static void daysToAskFor(Tests tests) {
         tests.test("21 \"day: 0 to 364\"", () -> {
-            DrillVault vault = Tests.vault(vaultOn -> CopyTests.passTo(vaultOn, 360));
+            DrillVault vault = Tests.vault(vaultOn -> Edges.passTo(vaultOn, 360));
             for (int day = 0; day <= 364; day++) {
                 Tests.due("onCall " + day, vault.onCall(day), day % 5);
             }
@@ -79,7 +79,8 @@ final class RotaEdgeTests {
 
     private static void anotherOne(Tests tests) {
         tests.test("22 other is \"another one\": not the same day", () -> {
-            Edges.refused("swap of both", Edges.ARGUMENT, Edges.EMPTY, (vault, day) -> vault.swap(day, day), 0, 1, 363, 364);
+            Edges.refused("swap of both", Edges.ARGUMENT, Edges.EMPTY, (vault, day) -> vault.swap(day, day),
+                    0, 1, 363, 364);
             Edges.refused("swap of both", Edges.ARGUMENT, ON_10, (vault, day) -> vault.swap(day, day), 10, 11, 364);
             Edges.refused("swap of both", Edges.ARGUMENT, ON_10, (vault, day) -> vault.swap(day, day),
                     Edges.outside(10, 364));
@@ -103,19 +104,23 @@ final class RotaEdgeTests {
     private static void rest(Tests tests) {
         tests.test("22 \"on two days that follow one another\": day and the one ahead of it", () -> {
             Tests.refused("20 gets 4 of 24", Edges.STATE, Edges.EMPTY, vault -> vault.swap(20, 24));
-            Tests.refused("80 gets 4, 49 gets 0: only 79 is in the way", Edges.STATE, SWAPPED, vault -> vault.swap(80, 49));
+            Tests.refused("80 gets 4, 49 gets 0: only 79 is in the way", Edges.STATE, SWAPPED,
+                    vault -> vault.swap(80, 49));
         });
         tests.test("22 \"on two days that follow one another\": day and the one behind it", () -> {
             Tests.refused("20 gets 1 of 31", Edges.STATE, Edges.EMPTY, vault -> vault.swap(20, 31));
-            Tests.refused("72 gets 3, 53 gets 2: only 73 is in the way", Edges.STATE, SWAPPED, vault -> vault.swap(72, 53));
+            Tests.refused("72 gets 3, 53 gets 2: only 73 is in the way", Edges.STATE, SWAPPED,
+                    vault -> vault.swap(72, 53));
         });
         tests.test("22 \"on two days that follow one another\": other and the one ahead of it", () -> {
             Tests.refused("20 gets 4 of 34", Edges.STATE, Edges.EMPTY, vault -> vault.swap(34, 20));
-            Tests.refused("60 gets 3, 53 gets 0: only 52 is in the way", Edges.STATE, SWAPPED, vault -> vault.swap(60, 53));
+            Tests.refused("60 gets 3, 53 gets 0: only 52 is in the way", Edges.STATE, SWAPPED,
+                    vault -> vault.swap(60, 53));
         });
         tests.test("22 \"on two days that follow one another\": other and the one behind it", () -> {
             Tests.refused("20 gets 1 of 41", Edges.STATE, Edges.EMPTY, vault -> vault.swap(41, 20));
-            Tests.refused("53 gets 2, 72 gets 3: only 73 is in the way", Edges.STATE, SWAPPED, vault -> vault.swap(53, 72));
+            Tests.refused("53 gets 2, 72 gets 3: only 73 is in the way", Edges.STATE, SWAPPED,
+                    vault -> vault.swap(53, 72));
         });
         tests.test("22 two days apart is rest enough", () -> {
             Tests.due("20 gets 2 of 22", new DrillVault().swap(20, 22), 2);

@@ -107,7 +107,7 @@ final class StoreEdgeTests {
     private static void countOfChanges(Tests tests) {
         tests.test("2 \"if there were 300 changes\": the 300th and the one behind it", () -> {
             DrillVault vault = new DrillVault();
-            CopyTests.changeTimes(vault, 299);
+            Edges.changeTimes(vault, 299);
             Tests.due("the 300th", vault.change(3, 77), 93);
             for (int file = 0; file <= 9; file++) {
                 int changed = file;
@@ -116,7 +116,7 @@ final class StoreEdgeTests {
             vault.full();
             Tests.due("the 300th is restored", vault.restore(0, 3), 77);
             Tests.due("the 300th by changes", vault.restoreByChanges(0, 3), 77);
-            Tests.refused("the 301st", Edges.STATE, each -> CopyTests.changeTimes(each, 300), each -> each.change(0, 0));
+            Tests.refused("the 301st", Edges.STATE, each -> Edges.changeTimes(each, 300), each -> each.change(0, 0));
             Tests.refused("the 301st of a full object", Edges.STATE, Edges.FULL, each -> each.change(9, 99));
         });
         tests.test("2 \"if there were 300 changes\": those to the same content, and of one file", () -> {
@@ -128,7 +128,7 @@ final class StoreEdgeTests {
         });
         tests.test("2 \"if there were 300 changes\": no call brings one back", () -> {
             Tests.Deed later = vault -> {
-                CopyTests.changeTimes(vault, 300);
+                Edges.changeTimes(vault, 300);
                 Edges.THINNED.accept(vault);
                 vault.damage(2);
                 vault.drill(2);
@@ -139,7 +139,7 @@ final class StoreEdgeTests {
         });
         tests.test("2 \"if there were 300 changes\": the refused ones were none", () -> {
             DrillVault vault = new DrillVault();
-            CopyTests.changeTimes(vault, 299);
+            Edges.changeTimes(vault, 299);
             Tests.dueThrow("no file", Edges.OUT, () -> vault.change(10, 0));
             Tests.dueThrow("no content", Edges.ARGUMENT, () -> vault.change(0, 100));
             Tests.due("the 300th", vault.change(0, 1), 90);
@@ -164,8 +164,8 @@ final class StoreEdgeTests {
                 Tests.dueThrow("to 361 by " + days, Edges.STATE, () -> vault.pass(much));
                 Tests.due("day", vault.day(), 361 - days);
             }
-            Tests.refused("331 and 30", Edges.STATE, each -> CopyTests.passTo(each, 331), each -> each.pass(30));
-            Tests.refused("359 and 2", Edges.STATE, each -> CopyTests.passTo(each, 359), each -> each.pass(2));
+            Tests.refused("331 and 30", Edges.STATE, each -> Edges.passTo(each, 331), each -> each.pass(30));
+            Tests.refused("359 and 2", Edges.STATE, each -> Edges.passTo(each, 359), each -> each.pass(2));
         });
         tests.test("3 \"if the day would be above 360\": on the day 360", () -> {
             Edges.refused("pass", Edges.STATE, Edges.FULL, DrillVault::pass, 1, 30);
@@ -188,7 +188,7 @@ final class StoreEdgeTests {
             }
             Tests.dueThrow("the one behind it", Edges.STATE, vault::full);
             Tests.due("copies", vault.copies(), 60);
-            Tests.refused("after 60 full copies", Edges.STATE, each -> CopyTests.fullTimes(each, 60), DrillVault::full);
+            Tests.refused("after 60 full copies", Edges.STATE, each -> Edges.fullTimes(each, 60), DrillVault::full);
             Tests.refused("of a full object", Edges.STATE, Edges.FULL, DrillVault::full);
         });
         tests.test("4 \"if 60 copies were made\": also if they were increments", () -> {
@@ -219,11 +219,11 @@ final class StoreEdgeTests {
         });
         tests.test("5 \"if 60 copies were made\": also if they were full ones", () -> {
             DrillVault vault = new DrillVault();
-            CopyTests.fullTimes(vault, 59);
+            Edges.fullTimes(vault, 59);
             Tests.due("the 60th", vault.increment(), 59);
             Tests.due("base of the 60th", vault.baseOf(59), 58);
             Tests.dueThrow("the one behind it", Edges.STATE, vault::increment);
-            Tests.refused("after 60 full copies", Edges.STATE, each -> CopyTests.fullTimes(each, 60),
+            Tests.refused("after 60 full copies", Edges.STATE, each -> Edges.fullTimes(each, 60),
                     DrillVault::increment);
         });
         tests.test("5 \"if 60 copies were made\": also if they were taken off", () ->
@@ -301,7 +301,7 @@ final class StoreEdgeTests {
         });
         tests.test("5 keeps the 300th change", () -> {
             DrillVault vault = new DrillVault();
-            CopyTests.changeTimes(vault, 299);
+            Edges.changeTimes(vault, 299);
             vault.full();
             vault.change(9, 98);
             vault.increment();

@@ -71,7 +71,7 @@ final class TellingEdgeTests {
         });
         tests.test("12 space on a full store, the greatest and the least", () -> {
             Tests.due("space", Tests.vault(Edges.FULL).space(), 12 * (11 + 4 * 6));
-            DrillVault fulls = Tests.vault(vault -> CopyTests.fullTimes(vault, 60));
+            DrillVault fulls = Tests.vault(vault -> Edges.fullTimes(vault, 60));
             Tests.due("of full copies", fulls.space(), 60 * 11);
             DrillVault increments = new DrillVault();
             increments.full();

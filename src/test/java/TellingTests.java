@@ -1,7 +1,5 @@
 /** Promises 10 to 20: the calls that tell what there is. */
 final class TellingTests {
-    private static final Class<IndexOutOfBoundsException> OUT = IndexOutOfBoundsException.class;
-
     private TellingTests() {
     }
 
@@ -10,21 +8,26 @@ final class TellingTests {
         ofCopies(tests);
         generations(tests);
         restores(tests);
-        tests.test("10 to 21 the calls that tell change nothing", () -> {
-            Tests.changesNothing("10 day", CopyTests.SOME, DrillVault::day);
-            Tests.changesNothing("11 copies", CopyTests.SOME, DrillVault::copies);
-            Tests.changesNothing("12 space", CopyTests.SOME, DrillVault::space);
-            Tests.changesNothing("13 dayOf", CopyTests.SOME, vault -> vault.dayOf(2));
-            Tests.changesNothing("14 baseOf", CopyTests.SOME, vault -> vault.baseOf(2));
-            Tests.changesNothing("15 keeps", CopyTests.SOME, vault -> vault.keeps(2));
-            Tests.changesNothing("16 isPromised", CopyTests.SOME, vault -> vault.isPromised(2));
-            Tests.changesNothing("17 isNeeded", CopyTests.SOME, vault -> vault.isNeeded(2));
-            Tests.changesNothing("18 isProved", CopyTests.SOME, vault -> vault.isProved(2));
-            Tests.changesNothing("19 restore", CopyTests.SOME, vault -> vault.restore(2, 1));
-            Tests.changesNothing("20 restoreByChanges", CopyTests.SOME, vault -> vault.restoreByChanges(2, 1));
-            Tests.changesNothing("21 onCall", CopyTests.SOME, vault -> vault.onCall(8));
-            Tests.changesNothing("23 alarm", CopyTests.SOME, vault -> vault.alarm(31));
+        tests.test("10 to 23 the calls that tell change nothing", () -> {
+            tellingChangesNothing(Edges.SOME);
+            tellingChangesNothing(Edges.FULL);
         });
+    }
+
+    private static void tellingChangesNothing(Tests.Deed state) {
+        Tests.changesNothing("10 day", state, DrillVault::day);
+        Tests.changesNothing("11 copies", state, DrillVault::copies);
+        Tests.changesNothing("12 space", state, DrillVault::space);
+        Tests.changesNothing("13 dayOf", state, vault -> vault.dayOf(2));
+        Tests.changesNothing("14 baseOf", state, vault -> vault.baseOf(2));
+        Tests.changesNothing("15 keeps", state, vault -> vault.keeps(2));
+        Tests.changesNothing("16 isPromised", state, vault -> vault.isPromised(2));
+        Tests.changesNothing("17 isNeeded", state, vault -> vault.isNeeded(2));
+        Tests.changesNothing("18 isProved", state, vault -> vault.isProved(2));
+        Tests.changesNothing("19 restore", state, vault -> vault.restore(2, 1));
+        Tests.changesNothing("20 restoreByChanges", state, vault -> vault.restoreByChanges(2, 1));
+        Tests.changesNothing("21 onCall", state, vault -> vault.onCall(8));
+        Tests.changesNothing("23 alarm", state, vault -> vault.alarm(31));
     }
 
     private static void counts(Tests tests) {
@@ -33,7 +36,7 @@ final class TellingTests {
             Tests.due("at first", vault.day(), 0);
             vault.pass(30);
             Tests.due("later", vault.day(), 30);
-            CopyTests.passTo(vault, 360);
+            Edges.passTo(vault, 360);
             Tests.due("at last", vault.day(), 360);
         });
         tests.test("11 copies, 12 space", () -> {
@@ -69,34 +72,30 @@ final class TellingTests {
             Tests.due("2", vault.dayOf(2), 1);
             Tests.due("3", vault.dayOf(3), 17);
             Tests.due("4", vault.dayOf(4), 360);
-            CopyTests.noSuchCopy("dayOf", DrillVault::dayOf);
         });
         tests.test("14 baseOf", () -> {
-            DrillVault vault = Tests.vault(CopyTests.SOME);
+            DrillVault vault = Tests.vault(Edges.SOME);
             Tests.due("0", vault.baseOf(0), DrillVault.NONE);
             Tests.due("1", vault.baseOf(1), 0);
             Tests.due("2", vault.baseOf(2), 1);
             Tests.due("3", vault.baseOf(3), -1);
             Tests.due("4", vault.baseOf(4), 3);
-            CopyTests.noSuchCopy("baseOf", DrillVault::baseOf);
         });
         tests.test("15 keeps", () -> {
-            DrillVault vault = Tests.vault(CopyTests.SOME);
+            DrillVault vault = Tests.vault(Edges.SOME);
             Tests.due("0", vault.keeps(0), 10);
             Tests.due("1", vault.keeps(1), 1);
             Tests.due("2", vault.keeps(2), 2);
             Tests.due("3", vault.keeps(3), 10);
             Tests.due("4", vault.keeps(4), 1);
-            CopyTests.noSuchCopy("keeps", DrillVault::keeps);
         });
         tests.test("18 isProved", () -> {
-            DrillVault vault = Tests.vault(CopyTests.SOME);
+            DrillVault vault = Tests.vault(Edges.SOME);
             Tests.due("0", vault.isProved(0), true);
             Tests.due("1", vault.isProved(1), true);
             Tests.due("2", vault.isProved(2), false);
             Tests.due("3", vault.isProved(3), false);
             Tests.due("an increment on a proved copy", vault.isProved(vault.increment()), false);
-            CopyTests.noSuchCopy("isProved", DrillVault::isProved);
         });
     }
 
@@ -107,7 +106,6 @@ final class TellingTests {
             Tests.due("rules at first", GenerationTests.promised(vault, 6), "--+-++");
             vault.setRules(0, 3, 2);
             Tests.due("weeks and months", GenerationTests.promised(vault, 6), "-+--++");
-            CopyTests.noSuchCopy("isPromised", DrillVault::isPromised);
         });
         tests.test("16 a copy is promised no more when later ones come", () -> {
             DrillVault vault = new DrillVault();
@@ -127,28 +125,19 @@ final class TellingTests {
             Tests.due("asked as the first thing", first.isNeeded(0), true);
             first.increment();
             Tests.due("of an increment", first.isNeeded(1), true);
-            DrillVault vault = Tests.vault(CopyTests.SOME);
+            DrillVault vault = Tests.vault(Edges.SOME);
             vault.setRules(1, 0, 0);
             Tests.due("the last chain", GenerationTests.needed(vault, 5), "---++");
             vault.setRules(2, 0, 0);
             Tests.due("two days", GenerationTests.needed(vault, 5), "+++++");
             vault.setRules(0, 0, 0);
             Tests.due("none", GenerationTests.needed(vault, 5), "-----");
-            DrillVault middle = GenerationTests.fullsOn(0);
-            middle.pass(1);
-            middle.increment();
-            middle.increment();
-            middle.full();
-            middle.setRules(2, 0, 0);
-            Tests.due("promised", GenerationTests.promised(middle, 4), "+--+");
-            Tests.due("increments on a needed one are not", GenerationTests.needed(middle, 4), "+--+");
-            CopyTests.noSuchCopy("isNeeded", DrillVault::isNeeded);
         });
     }
 
     private static void restores(Tests tests) {
         tests.test("19 restore, 20 restoreByChanges: as it was when the copy was made", () -> {
-            DrillVault vault = Tests.vault(CopyTests.SOME);
+            DrillVault vault = Tests.vault(Edges.SOME);
             int[][] want = {
                 {10, 0, 0, 0, 0, 0, 0, 0, 0, 0},
                 {10, 11, 0, 0, 0, 0, 0, 0, 0, 0},
@@ -162,23 +151,13 @@ final class TellingTests {
                 }
             }
         });
-        tests.test("19 restore, 20 restoreByChanges: no such copy or file", () -> {
-            for (int file : new int[] {-1, 10, Integer.MIN_VALUE, Integer.MAX_VALUE}) {
-                Tests.refused("restore(1, " + file + ")", OUT, CopyTests.SOME, vault -> vault.restore(1, file));
-                Tests.refused("restoreByChanges(1, " + file + ")", OUT, CopyTests.SOME,
-                        vault -> vault.restoreByChanges(1, file));
-                Tests.refused("restore(7, " + file + ")", OUT, CopyTests.SOME, vault -> vault.restore(7, file));
-            }
-            CopyTests.noSuchCopy("restore", (vault, copy) -> vault.restore(copy, 9));
-            CopyTests.noSuchCopy("restoreByChanges", (vault, copy) -> vault.restoreByChanges(copy, 0));
-        });
         tests.test("19, 20 a chain of 60 with 300 changes", () -> {
             for (int part = 0; part < 60; part += 10) {
                 restoreLongChain(part);
             }
         });
         tests.test("19 restore of a damaged chain", () -> {
-            DrillVault vault = Tests.vault(CopyTests.SOME);
+            DrillVault vault = Tests.vault(Edges.SOME);
             vault.damage(4);
             Tests.due("damaged copy and base", vault.restore(4, 9), 99);
             Tests.due("by changes", vault.restoreByChanges(4, 9), 99);
