@@ -10,7 +10,9 @@ final class GenerationEdgeTests {
         copiesOfADay(tests);
         needed(tests);
         loose(tests);
+        looseBehindAProof(tests);
         looseToTheEnd(tests);
+        looseBehindANeededOne(tests);
         allAtOnce(tests);
     }
 
@@ -99,7 +101,7 @@ final class GenerationEdgeTests {
     }
 
     private static void periods(Tests tests) {
-        tests.test("16 \"Weeks are days 7 * w to 7 * w + 6\": each week's first and last day", () -> {
+        tests.test("8, 16 \"Weeks are days 7 * w to 7 * w + 6\": each week's first and last day", () -> {
             for (int week = 0; 7 * week + 7 <= 360; week++) {
                 DrillVault vault = GenerationTests.fullsOn(7 * week, 7 * week + 6, 7 * week + 7);
                 vault.setRules(0, 2, 0);
@@ -108,13 +110,32 @@ final class GenerationEdgeTests {
                 Tests.due("all weeks", vault.setRules(0, 20, 0), 2);
             }
         });
-        tests.test("16 \"months are days 28 * m to 28 * m + 27\": each month's first and last day", () -> {
+        tests.test("8, 16 \"months are days 28 * m to 28 * m + 27\": each month's first and last day", () -> {
             for (int month = 0; 28 * month + 28 <= 360; month++) {
                 DrillVault vault = GenerationTests.fullsOn(28 * month, 28 * month + 27, 28 * month + 28);
                 vault.setRules(0, 0, 2);
                 Tests.due("month " + month, GenerationTests.promised(vault, 3), "-++");
                 Tests.due("one month", vault.setRules(0, 0, 1), 1);
                 Tests.due("all months", vault.setRules(0, 0, 12), 2);
+            }
+        });
+        tests.test("17 needed by weeks and months: an increment on their last day holds its chain", () -> {
+            for (int first : new int[] {0, 28, 308}) {
+                DrillVault vault = GenerationTests.fullsOn(first);
+                int[] later = {first + 6, first + 7, first + 27, first + 28};
+                for (int copy = 1; copy <= later.length; copy++) {
+                    Edges.passTo(vault, later[copy - 1]);
+                    Tests.due("number", copy % 2 == 1 ? vault.increment() : vault.full(), copy);
+                }
+                // The chains are 0 1, then 2 3, then 4; the weeks have 0 1, 2, 3, 4; the months 0 1 2 3, 4.
+                vault.setRules(0, 4, 0);
+                Tests.due("four weeks from " + first, GenerationTests.needed(vault, 5), "+++++");
+                vault.setRules(0, 3, 0);
+                Tests.due("three weeks from " + first, GenerationTests.needed(vault, 5), "--+++");
+                vault.setRules(0, 0, 2);
+                Tests.due("two months from " + first, GenerationTests.needed(vault, 5), "--+++");
+                vault.setRules(0, 0, 1);
+                Tests.due("a month from " + first, GenerationTests.needed(vault, 5), "----+");
             }
         });
         tests.test("16 the day 360: week 51, month 12", () -> {
@@ -230,6 +251,9 @@ final class GenerationEdgeTests {
                 Tests.due("both ahead of the day " + (day + 1), vault.thin(), 22);
             }
         });
+    }
+
+    private static void looseBehindAProof(Tests tests) {
         tests.test("9 loose behind \"some proved copy\": without any nothing is", () -> {
             DrillVault vault = Tests.vault(Edges.FULL);
             vault.setRules(0, 0, 0);
@@ -305,6 +329,9 @@ final class GenerationEdgeTests {
             Tests.due("thin", vault.thin(), 11 + 58);
             Tests.due("copies", vault.copies(), 1);
         });
+    }
+
+    private static void looseBehindANeededOne(Tests tests) {
         tests.test("9 loose increments behind a needed copy are taken off, the needed one is not", () -> {
             DrillVault vault = GenerationTests.fullsOn(0);
             vault.pass(6);

@@ -7,6 +7,7 @@ final class GenerationTests {
         rules(tests);
         periods(tests);
         thinning(tests);
+        thinningOfChains(tests);
     }
 
     /** A full copy on each of the days. */
@@ -151,6 +152,9 @@ final class GenerationTests {
             Tests.due("thin", vault.thin(), 12);
             Tests.due("there", there(vault, 4), "--++");
         });
+    }
+
+    private static void thinningOfChains(Tests tests) {
         tests.test("9 a loose copy stays as long as an increment on it is not loose", () -> {
             // 0 full, 1 and 2 increments: 2 is made on the day of the proof, so it is not loose.
             DrillVault vault = fullsOn(0);

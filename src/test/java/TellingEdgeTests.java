@@ -160,8 +160,8 @@ final class TellingEdgeTests {
         });
         tests.test("19, 20 \"if there is no such copy or file\": neither", () -> {
             for (int file : Edges.outside(0, 9)) {
-                Edges.refused("restore, file " + file, Edges.OUT, Edges.SOME, (vault, copy) -> vault.restore(copy, file),
-                        -1, 5, 60);
+                Edges.refused("restore, file " + file, Edges.OUT, Edges.SOME,
+                        (vault, copy) -> vault.restore(copy, file), -1, 5, 60);
                 Edges.refused("restoreByChanges, file " + file, Edges.OUT, Edges.SOME,
                         (vault, copy) -> vault.restoreByChanges(copy, file), -1, 5, 60);
             }
