@@ -6,6 +6,7 @@ public final class AllTests {
     public static void main(String[] args) {
         Tests tests = new Tests();
         FaceTests.addTo(tests);
+        LanguageTests.addTo(tests);
         CopyTests.addTo(tests);
         GenerationTests.addTo(tests);
         TellingTests.addTo(tests);
@@ -16,6 +17,7 @@ public final class AllTests {
         RotaEdgeTests.addTo(tests);
         RefusalTests.addTo(tests);
         LongUseTests.addTo(tests);
+        ReadmeTests.addTo(tests);
         ModelTests.addTo(tests);
         System.out.println(tests.summary());
         if (tests.failed() != 0) {
